@@ -1,240 +1,252 @@
-/** Promise 13: DAYS go by, with their water, PALMS, harvests and LOANS. */
+/** Promise 13, and section 1: DAYS go by, with their RAIN, TABLE, FLOW and MUD. */
 public final class DaysTest {
-    // The RAIN with which the TABLE stays at 200, and the FLOW at 12, while there is no MUD.
-    private static final int STEADY = 36;
-
     private DaysTest() {
     }
 
-    private static void table() {
+    private static void rainRange() {
+        Check.range("pass's rain", Given::whole, (x, n) -> x.pass(n, 1), 0, "7200", 99, "10080");
+    }
+
+    private static void daysRange() {
+        int seventy = 0;
+        OasisBooks x = Given.whole();
+        for (int day = 1; day <= 70; day++) {
+            seventy += x.pass(30, 1);
+        }
+        Check.range("pass's days", Given::whole, (y, n) -> y.pass(30, n), 1, "7920", 70, String.valueOf(seventy));
+    }
+
+    /** 28 YEARS are 1960 DAYS. */
+    private static OasisBooks onDay(int day) {
+        return Given.until(Given.oneDead(), day, 20);
+    }
+
+    private static void dayTwoThousand() {
+        for (int[] d : new int[][] {{1930, 70}, {1960, 40}, {1999, 1}}) {
+            OasisBooks x = onDay(d[0]);
+            Check.due("pass() from " + d[0] + " refused",
+                Check.outcome(() -> x.pass(20, d[1])).startsWith("throws"), false);
+            Check.due("DAY", x.many(0), 2000);
+            Check.due("DATE", x.many(1), 40);
+        }
+        for (int[] d : new int[][] {{1931, 70}, {1960, 41}, {1999, 2}, {1999, 70}, {2000, 1}, {2000, 70}}) {
+            Check.leaves("pass(20, " + d[1] + ") on the DAY " + d[0], () -> onDay(d[0]), x -> x.pass(20, d[1]),
+                Check.STATE);
+        }
+        OasisBooks x = onDay(1999);
+        Check.due("the DAY 2001", Check.outcome(() -> x.pass(20, 2)), Check.STATE);
+        Check.due("the DAY 2000 then", Check.outcome(() -> x.pass(20, 1)).startsWith("throws"), false);
+    }
+
+    private static void argumentFirst() {
+        for (int[] w : new int[][] {{100, 1}, {-1, 1}, {20, 0}, {20, 71}, {20, -1}, {20, Integer.MAX_VALUE}}) {
+            Check.leaves("pass(" + w[0] + ", " + w[1] + ") on the DAY 2000", () -> onDay(2000),
+                x -> x.pass(w[0], w[1]), Check.ARGUMENT);
+        }
+    }
+
+    private static void litresThatCame() {
+        Check.due("without OWNERS", new OasisBooks().pass(30, 70), 0);
+        Check.due("without BOWLS", Given.bowls(0, 0).pass(30, 70), 0);
+        OasisBooks x = Given.bowls(1000, 800, 3240);
+        int came = x.pass(33, 45);
+        Check.due("as told of each", came, x.of(0, 13) + x.of(1, 13) + x.of(2, 13));
+        Check.due("only of these DAYS", x.pass(33, 1), x.of(0, 12) + x.of(1, 12) + x.of(2, 12));
+    }
+
+    private static void oneByOneOrAtOnce() {
+        OasisBooks one = Given.oneDead();
+        OasisBooks other = Given.oneDead();
+        int came = 0;
+        for (int day = 0; day < 70; day++) {
+            came += one.pass(24, 1);
+        }
+        Check.due("litres", other.pass(24, 70), came);
+        Check.due("all", Look.at(other), Look.at(one));
+    }
+
+    private static void dates() {
         OasisBooks x = new OasisBooks();
-        x.pass(0, 1);
-        Check.due("TABLE without RAIN", x.many(2), 188);
-        Check.due("FLOW without RAIN", x.many(3), 10);
-        x.pass(8, 1);
-        Check.due("TABLE with RAIN 8", x.many(2), 180);
+        int[][] want = {{0, 0}, {1, 1}, {69, 69}, {70, 0}, {71, 1}, {139, 69}, {140, 0}, {1999, 39}, {2000, 40}};
+        for (int[] w : want) {
+            Given.until(x, w[0], 0);
+            Check.due("DAY", x.many(0), w[0]);
+            Check.due("the DATE of the DAY " + w[0], x.many(1), w[1]);
+        }
+    }
+
+    private static void rainDividedByThree() {
+        int[][] want = {{0, 188}, {1, 188}, {2, 188}, {3, 189}, {5, 189}, {6, 190}, {36, 200}, {97, 220}, {98, 220},
+            {99, 221}};
+        for (int[] w : want) {
+            OasisBooks x = new OasisBooks();
+            x.pass(w[0], 1);
+            Check.due("TABLE with RAIN " + w[0], x.many(2), w[1]);
+        }
+    }
+
+    private static void flowAheadOfIt() {
+        OasisBooks x = new OasisBooks();
+        int[][] want = {{188, 10}, {178, 9}, {169, 8}, {161, 8}, {153, 7}};
+        for (int[] w : want) {
+            x.pass(0, 1);
+            Check.due("TABLE on the DAY " + x.many(0), x.many(2), w[0]);
+            Check.due("FLOW on the DAY " + x.many(0), x.many(3), w[1]);
+        }
+    }
+
+    private static void pumpDraws() {
+        for (int draw : new int[] {0, 1, 19, 20}) {
+            OasisBooks x = new OasisBooks();
+            x.pump(draw);
+            x.pass(0, 1);
+            Check.due("TABLE with DRAW " + draw, x.many(2), 188 - draw);
+            int flow = x.many(3);
+            x.pass(99, 1);
+            Check.due("TABLE with DRAW " + draw + " on the next DAY", x.many(2), 188 - draw + 33 - flow - draw);
+        }
+    }
+
+    /** By RAIN 99 and no DRAW the TABLE is 399 on the DAY 24. */
+    private static OasisBooks high() {
+        return Given.until(new OasisBooks(), 24, 99);
+    }
+
+    private static void tableBehind(String when, OasisBooks x, int draw, int rain, int want) {
+        x.pump(draw);
+        x.pass(rain, 1);
+        Check.due("TABLE " + when + ", with DRAW " + draw + " and RAIN " + rain, x.many(2), want);
+    }
+
+    private static void tableFourHundredAtMost() {
+        Check.due("TABLE on the DAY 24", high().many(2), 399);
+        Check.due("FLOW on the DAY 24", high().many(3), 31);
+        tableBehind("from 399", high(), 2, 99, 399);
+        tableBehind("from 399", high(), 1, 99, 400);
+        tableBehind("from 399", high(), 0, 99, 400);
+        OasisBooks x = Given.until(high(), 26, 99);
+        Check.due("TABLE on the DAY 26", x.many(2), 400);
+        Check.due("FLOW at 400", x.many(3), 31);
+        tableBehind("from 400, all together", Given.until(high(), 26, 99), 20, 99, 382);
+        tableBehind("from 400, all together", Given.until(high(), 26, 99), 3, 99, 399);
+        tableBehind("from 400", Given.until(high(), 26, 99), 0, 0, 369);
+    }
+
+    /** Without RAIN and with DRAW 20 the TABLE is 10 on the DAY 8, and the FLOW 0. */
+    private static OasisBooks low() {
+        OasisBooks x = new OasisBooks();
         x.pump(20);
-        x.pass(99, 1);
-        Check.due("TABLE with RAIN 99 and DRAW 20", x.many(2), 183);
-        x.pump(0);
-        x.pass(99, 70);
-        Check.due("TABLE at most", x.many(2), 400);
-        Check.due("DAY", x.many(0), 73);
-        Check.due("DATE", x.many(1), 3);
+        return Given.until(x, 8, 0);
+    }
+
+    private static void tableZeroAtLeast() {
+        Check.due("TABLE on the DAY 8", low().many(2), 10);
+        Check.due("FLOW on the DAY 8", low().many(3), 0);
+        tableBehind("from 10", low(), 9, 0, 1);
+        tableBehind("from 10", low(), 10, 0, 0);
+        tableBehind("from 10", low(), 11, 0, 0);
+        tableBehind("from 10", low(), 20, 0, 0);
+        tableBehind("from 10, all together", low(), 20, 30, 0);
+        tableBehind("from 10, all together", low(), 20, 33, 1);
+        OasisBooks x = Given.until(low(), 12, 0);
+        Check.due("TABLE on the DAY 12", x.many(2), 0);
+        tableBehind("from 0", Given.until(low(), 12, 0), 20, 60, 0);
+        tableBehind("from 0", Given.until(low(), 12, 0), 20, 63, 1);
+        tableBehind("from 0", Given.until(low(), 12, 0), 0, 0, 0);
+        tableBehind("from 0", Given.until(low(), 12, 0), 0, 3, 1);
+    }
+
+    /** With MUD 30 the FLOW is (TABLE less 140) / 10. */
+    private static void flowZeroAtLeast() {
+        OasisBooks x = new OasisBooks();
+        x.fall(30);
+        Check.due("FLOW at the TABLE 200", x.many(3), 6);
+        int[][] want = {{20, 174, 3}, {20, 151, 1}, {0, 150, 1}, {0, 149, 0}, {8, 141, 0}, {1, 140, 0}, {1, 139, 0},
+            {20, 119, 0}};
+        for (int[] w : want) {
+            x.pump(w[0]);
+            x.pass(0, 1);
+            Check.due("TABLE behind DRAW " + w[0], x.many(2), w[1]);
+            Check.due("FLOW at the TABLE " + w[1], x.many(3), w[2]);
+        }
+    }
+
+    private static void nothingFlows() {
+        OasisBooks x = Given.whole();
         x.pump(20);
-        x.pass(0, 70);
-        Check.due("TABLE at least", x.many(2), 0);
-        Check.due("FLOW at least", x.many(3), 0);
-        x.pump(19);
-        x.pass(57, 1);
-        Check.due("TABLE: RAIN less DRAW", x.many(2), 0);
-        x.pass(60, 1);
-        Check.due("TABLE: RAIN less DRAW", x.many(2), 1);
+        Given.until(x, 8, 0);
+        int ever = x.of(0, 13);
+        Check.due("litres without FLOW", x.pass(0, 5), 0);
+        Check.due("of the latest DAY", x.of(0, 12), 0);
+        Check.due("ever", x.of(0, 13), ever);
     }
 
-    private static void mud() {
-        OasisBooks x = new OasisBooks();
-        x.pass(STEADY, 9);
-        Check.due("MUD on the DATE 9", x.many(5), 0);
-        Check.due("LET OUT", x.many(12), 77760);
-        x.pass(STEADY, 1);
-        Check.due("MUD on the DATE 10", x.many(5), 1);
-        Check.due("TABLE by the FLOW ahead of it", x.many(2), 200);
-        Check.due("LET OUT with the FLOW as it is now", x.many(12), 85680);
-        x.pass(STEADY, 1);
-        Check.due("TABLE by the FLOW with MUD", x.many(2), 201);
-        x.pass(STEADY, 58);
-        Check.due("MUD on the DATE 69", x.many(5), 6);
-        x.pass(STEADY, 1);
-        Check.due("MUD on the DATE 0", x.many(5), 7);
-        x.fall(22);
-        x.pass(0, 20);
-        Check.due("MUD at most", x.many(5), 30);
-    }
-
-    private static void water() {
-        OasisBooks x = new OasisBooks();
-        x.owner(720, 0, 0, 0);
-        x.owner(721, 0, 0, 0);
-        Check.due("the DAY 1", x.pass(STEADY, 1), 8467);
-        Check.due("of(0, 12)", x.of(0, 12), 0);
-        Check.due("of(1, 12)", x.of(1, 12), 8467);
-        Check.due("LOST", x.many(13), 173);
-        Check.due("LET OUT", x.many(12), 0);
-        Check.due("the DAY 2", x.pass(STEADY, 1), 11);
-        Check.due("LET OUT", x.many(12), 719 * 12);
-        Check.due("LOST", x.many(13), 174);
-        Check.due("the DAYS 3 to 6", x.pass(STEADY, 4), 0);
-        Check.due("of(1, 12) without any", x.of(1, 12), 0);
-        Check.due("the DAY 7", x.pass(STEADY, 1), 8640);
-        Check.due("of(0, 13)", x.of(0, 13), 8640);
-        Check.due("of(1, 13)", x.of(1, 13), 8478);
-        Check.due("one who comes late", x.owner(9, 0, 0, 0), 2);
-        Check.due("of(2, 13)", x.of(2, 13), 0);
-    }
-
-    /** The litres of a USER are taken all together ahead of the division. */
-    private static void lentWater() {
-        OasisBooks x = new OasisBooks();
-        x.owner(721, 0, 0, 0);
-        x.owner(0, 0, 0, 0);
-        x.owner(10, 0, 0, 0);
-        x.lend(0, 1, 1, 1);
-        x.lend(2, 1, 1, 1);
-        Check.due("came in all", x.pass(STEADY, 1), 126);
-        Check.due("of(0, 12)", x.of(0, 12), 0);
-        Check.due("of(1, 12)", x.of(1, 12), 23);
-        Check.due("of(2, 12)", x.of(2, 12), 103);
-        Check.due("LOST", x.many(13), 6);
-        Check.due("LET OUT", x.many(12), 8508);
-    }
-
-    private static void loansEndBehindTheWater() {
-        OasisBooks x = new OasisBooks();
-        x.owner(720, 0, 0, 0);
-        x.owner(0, 0, 0, 0);
-        x.lend(0, 1, 720, 2);
-        x.pass(STEADY, 7);
-        Check.due("by LOAN on the DAY 7", x.of(1, 12), 8467);
-        Check.due("CYCLES left", x.ofLoan(0, 3), 1);
-        x.pass(0, 6);
-        Check.due("CYCLES left on the DAY 13", x.ofLoan(0, 3), 1);
+    private static void flowAtMost() {
+        OasisBooks x = Given.whole();
+        x.dig(50);
+        Given.until(x, 70, 99);
+        x.clean(7);
+        Check.due("FLOW at the TABLE " + x.many(2), x.many(3), (x.many(2) - 30) / 10);
+        int flow = x.many(3);
+        int table = x.many(2);
         x.pass(99, 1);
-        Check.due("LOANS on the DAY 14", x.many(10), 0);
-        Check.due("the lender had none on it", x.of(0, 13), 0);
+        Check.due("TABLE then", x.many(2), Math.min(400, table + 33 - flow));
     }
 
-    private static OasisBooks garden(int bowls, int palms, int males, int days) {
+    private static void mudOnEachTenthDate() {
         OasisBooks x = new OasisBooks();
-        x.owner(bowls, 0, palms, males);
-        if (males > 0) {
-            x.pollinate(0, palms);
+        int[][] want = {{0, 0}, {1, 0}, {9, 0}, {10, 1}, {11, 1}, {19, 1}, {20, 2}, {60, 6}, {69, 6}, {70, 7}, {71, 7},
+            {80, 8}, {140, 14}};
+        for (int[] w : want) {
+            Given.until(x, w[0], 36);
+            Check.due("MUD on the DAY " + w[0], x.many(5), w[1]);
         }
-        x.pass(STEADY, days);
-        return x;
     }
 
-    private static void moistAndSalt() {
-        Check.due("MOIST by 14 more", garden(728, 10, 0, 1).of(0, 4), 58);
-        Check.due("MOIST by 40 at most", garden(728, 2, 0, 1).of(0, 4), 84);
-        Check.due("MOIST 99 ahead of 6 less", garden(5040, 10, 0, 2).of(0, 4), 93);
-        Check.due("MOIST on a dry DAY 6", garden(0, 10, 0, 6).of(0, 4), 14);
-        Check.due("MOIST on a dry DAY 8", garden(0, 10, 0, 8).of(0, 4), 2);
-        Check.due("MOIST 0 at least", garden(0, 10, 0, 9).of(0, 4), 0);
-        Check.due("SALT by 2 times NEED", garden(730, 3, 0, 1).of(0, 5), 0);
-        Check.due("SALT by more", garden(731, 3, 0, 1).of(0, 5), 1);
-        Check.due("MOIST without PALMS", garden(5040, 0, 0, 12).of(0, 4), 50);
-        Check.due("SALT without PALMS", garden(5040, 0, 0, 12).of(0, 5), 0);
-        OasisBooks x = garden(5040, 10, 0, 70);
-        Check.due("SALT on the DAY 70", x.of(0, 5), 70);
-        x.pass(30, 28);
-        Check.due("SALT on the DAY 98", x.of(0, 5), 98);
-        x.pass(30, 3);
-        Check.due("SALT at most", x.of(0, 5), 99);
-    }
-
-    private static void dryPalmsDie() {
-        Check.due("on the DATE 9", garden(0, 37, 0, 9).of(0, 2), 37);
-        Check.due("on the DATE 10", garden(0, 37, 0, 10).of(0, 2), 33);
-        Check.due("on the DATE 20", garden(0, 37, 0, 20).of(0, 2), 29);
-        Check.due("the last one", garden(0, 1, 0, 10).of(0, 2), 0);
-        Check.due("tens", garden(0, 40, 0, 10).of(0, 2), 35);
-        OasisBooks dying = garden(16, 12, 1, 10);
-        Check.due("MOIST 14", dying.of(0, 4), 14);
-        Check.due("with a MOIST of 14", dying.of(0, 2), 10);
-        Check.due("POLLINATED ones die too", dying.of(0, 10), 10);
-        OasisBooks living = garden(17, 12, 1, 10);
-        Check.due("MOIST 15", living.of(0, 4), 15);
-        Check.due("with a MOIST of 15", living.of(0, 2), 12);
-        OasisBooks some = new OasisBooks();
-        some.owner(0, 0, 40, 1);
-        some.pollinate(0, 20);
-        some.pass(0, 10);
-        Check.due("POLLINATED ones that are no more than PALMS", some.of(0, 10), 20);
-    }
-
-    private static void harvest() {
-        OasisBooks x = new OasisBooks();
-        x.owner(5040, 0, 200, 20);
-        x.pollinate(0, 200);
-        x.pass(30, 59);
-        Check.due("DATES on the DATE 59", x.of(0, 6), 0);
-        x.pass(30, 1);
-        Check.due("DATES on the DATE 60", x.of(0, 6), 1860);
-        Check.due("POLLINATED behind it", x.of(0, 10), 0);
-        Check.due("DATES harvested ever", x.many(14), 1860);
-        x.pass(30, 70);
-        Check.due("a harvest of nothing", x.many(14), 1860);
-        x.pass(30, 10);
-        x.pollinate(0, 7);
-        x.pass(30, 60);
-        Check.due("7 PALMS: rounded down", x.of(0, 6), 1925);
-        Check.due("DATES harvested ever", x.many(14), 1925);
-        OasisBooks salty = new OasisBooks();
-        salty.owner(5040, 0, 20, 1);
-        salty.pollinate(0, 20);
-        salty.pass(30, 60);
-        Check.due("SALT", salty.of(0, 5), 60);
-        Check.due("DATES less by SALT", salty.of(0, 6), 74);
-    }
-
-    private static void deliveries() {
-        OasisBooks x = new OasisBooks();
-        x.owner(5040, 5, 200, 20);
-        x.owner(0, 100, 0, 0);
-        x.pollinate(0, 200);
-        x.ahead(0, 1, 999, 60);
-        x.ahead(0, 1, 900, 40);
-        x.ahead(1, 0, 10, 0);
-        x.pass(30, 60);
-        Check.due("the seller's DATES", x.of(0, 6), 10);
-        Check.due("the buyer's DATES", x.of(1, 6), 1850);
-        Check.due("the seller's COINS", x.of(0, 1), 105 - 78);
-        Check.due("the buyer's COINS", x.of(1, 1), 78);
-        Check.due("the sales end", x.many(11), 0);
-        Check.due("DATES harvested ever", x.many(14), 1860);
-        x.ahead(1, 0, 9, 0);
-        x.ahead(0, 1, 999, 0);
-        x.pass(30, 69);
-        Check.due("sales stay until the harvest", x.many(11), 2);
-        x.pass(30, 1);
-        Check.due("the seller's DATES", x.of(0, 6), 0);
-        Check.due("COINS below 0", x.of(0, 1), 27 - 2 * 980);
-        Check.due("COINS of both", x.many(15), 105);
-    }
-
-    private static void wrong() {
-        OasisBooks x = new OasisBooks();
-        Class<IllegalArgumentException> argument = IllegalArgumentException.class;
-        Class<IllegalStateException> state = IllegalStateException.class;
-        int[][] wrong = {{-1, 1}, {100, 1}, {0, 0}, {0, -1}, {0, 71}, {Integer.MAX_VALUE, 1},
-            {0, Integer.MAX_VALUE}, {0, Integer.MIN_VALUE}};
-        for (int[] w : wrong) {
-            Check.refuses(x, argument, "pass(" + w[0] + ", " + w[1] + ")", () -> x.pass(w[0], w[1]));
+    private static void mudThirtyAtMost() {
+        for (int mud : new int[] {28, 29, 30}) {
+            OasisBooks x = new OasisBooks();
+            x.fall(mud);
+            Given.until(x, 10, 36);
+            Check.due("MUD on the DATE 10, from " + mud, x.many(5), Math.min(30, mud + 1));
+            Given.until(x, 20, 36);
+            Check.due("MUD on the DATE 20, from " + mud, x.many(5), 30);
+            Given.until(x, 1000, 36);
+            Check.due("MUD on the DAY 1000, from " + mud, x.many(5), 30);
         }
-        for (int year = 0; year < 28; year++) {
-            x.pass(99, 70);
-        }
-        Check.refuses(x, state, "to the DAY 2001", () -> x.pass(0, 41));
-        Check.refuses(x, argument, "too much RAIN to the DAY 2001", () -> x.pass(100, 41));
-        x.pass(0, 40);
-        Check.due("DAY", x.many(0), 2000);
-        Check.due("DATE", x.many(1), 40);
-        Check.refuses(x, state, "one DAY more", () -> x.pass(0, 1));
-        Check.refuses(x, argument, "no DAY more", () -> x.pass(0, 0));
+    }
+
+    /** On the DATE 10 the FLOW for the TABLE is 12 still, that for the water 11. */
+    private static void flowAsItIsNow() {
+        OasisBooks x = Given.until(Given.whole(), 9, 36);
+        Check.due("TABLE on the DATE 9", x.many(2), 200);
+        Check.due("litres on the DATE 10", x.pass(36, 1), 720 * 11);
+        Check.due("TABLE on the DATE 10", x.many(2), 200);
+        Check.due("litres on the DATE 11", x.pass(36, 1), 720 * 11);
+        Check.due("TABLE on the DATE 11", x.many(2), 201);
+        Check.due("litres by the new TABLE", Given.whole().pass(99, 1), 720 * 14);
+        Check.due("litres by the new TABLE", Given.whole().pass(0, 1), 720 * 10);
     }
 
     public static void main(String[] args) {
-        table();
-        mud();
-        water();
-        lentWater();
-        loansEndBehindTheWater();
-        moistAndSalt();
-        dryPalmsDie();
-        harvest();
-        deliveries();
-        wrong();
+        Check.that("promise 13: rain 0 to 99", DaysTest::rainRange);
+        Check.that("promise 13: days 1 to 70", DaysTest::daysRange);
+        Check.that("promise 13: DAY would be above 2000", DaysTest::dayTwoThousand);
+        Check.that("promise 13: IllegalArgument goes ahead of IllegalState", DaysTest::argumentFirst);
+        Check.that("promise 13: the litres that came to USERS in them", DaysTest::litresThatCame);
+        Check.that("promise 13: DAYS one by one or at once", DaysTest::oneByOneOrAtOnce);
+        Check.that("section 1: the DATE is DAY modulo 70", DaysTest::dates);
+        Check.that("section 1: RAIN / 3", DaysTest::rainDividedByThree);
+        Check.that("section 1: less FLOW as it is ahead of this", DaysTest::flowAheadOfIt);
+        Check.that("section 1: less DRAW", DaysTest::pumpDraws);
+        Check.that("section 1: TABLE 400 at most", DaysTest::tableFourHundredAtMost);
+        Check.that("section 1: TABLE 0 at least", DaysTest::tableZeroAtLeast);
+        Check.that("section 1: FLOW 0 at least", DaysTest::flowZeroAtLeast);
+        Check.that("section 1: nothing comes with a FLOW of 0", DaysTest::nothingFlows);
+        Check.that("section 1: LENGTH 90 and much RAIN", DaysTest::flowAtMost);
+        Check.that("section 1: MUD is 1 more on each DATE divided by 10", DaysTest::mudOnEachTenthDate);
+        Check.that("section 1: MUD 30 at most", DaysTest::mudThirtyAtMost);
+        Check.that("section 1: the water with the FLOW as it is now", DaysTest::flowAsItIsNow);
         Check.end();
     }
 }

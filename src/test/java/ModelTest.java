@@ -157,16 +157,17 @@ public final class ModelTest {
         int haste = 1 + below(6);
         int calls = run % 2 == 0 ? MOST_CALLS : MOST_CALLS - CALLS_TO_COMPARE;
         for (int call = 0; call < calls; call++) {
-            callSomething("run " + run + ", call " + call + ": ", haste, x, p);
+            callSomething("call " + call + ": ", haste, x, p);
         }
         if (run % 2 == 1) {
-            compareAll("run " + run + ", in the end: ", x, p);
+            compareAll("in the end: ", x, p);
         }
     }
 
     public static void main(String[] args) {
         for (int run = 0; run < RUNS; run++) {
-            run(run);
+            int r = run;
+            Check.that("run " + r, () -> run(r));
         }
         Check.end();
     }

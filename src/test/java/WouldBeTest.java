@@ -1,16 +1,12 @@
-/** Promises 20 to 24: what would be, with nothing changed. */
+/** Promises 20 to 23: what would be, with nothing changed. */
 public final class WouldBeTest {
-    private static final Class<IndexOutOfBoundsException> INDEX = IndexOutOfBoundsException.class;
-    private static final Class<IllegalArgumentException> ARGUMENT = IllegalArgumentException.class;
-
     private WouldBeTest() {
     }
 
+    /** Heirs, LOANS, POLLINATED PALMS, a sale AHEAD and a PUMP. */
     private static OasisBooks gardens() {
-        OasisBooks x = new OasisBooks();
-        x.owner(1500, 500, 60, 4);
-        x.owner(700, 500, 30, 2);
-        x.owner(2000, 500, 90, 5);
+        OasisBooks x = Given.owners(new int[] {1500, 500, 60, 4}, new int[] {700, 500, 30, 2},
+            new int[] {2000, 500, 90, 5});
         x.die(1, 1, 1);
         x.lend(2, 3, 500, 2);
         x.lend(0, 2, 300, 1);
@@ -23,269 +19,312 @@ public final class WouldBeTest {
         return x;
     }
 
-    private static void promise20WouldCome() {
-        OasisBooks x = new OasisBooks();
-        x.owner(5040, 0, 0, 0);
-        Check.due("wouldCome(0, 36, 1)", x.wouldCome(0, 36, 1), 8640);
-        Check.due("wouldCome(0, 0, 1)", x.wouldCome(0, 0, 1), 7200);
-        Check.due("wouldCome(0, 36, 9)", x.wouldCome(0, 36, 9), 77760);
-        Check.due("wouldCome(0, 36, 10), with MUD", x.wouldCome(0, 36, 10), 85680);
-        Check.due("DAY", x.many(0), 0);
-        x.pass(36, 1);
-        Check.due("only what comes from now on", x.wouldCome(0, 36, 1), 8640);
-        int[][] asked = {{0, 70}, {99, 70}, {30, 13}, {17, 1}};
-        for (int[] a : asked) {
-            for (int owner : new int[] {0, 2, 3, 4}) {
-                OasisBooks y = gardens();
-                y.pass(30, 4);
-                int before = y.of(owner, 13);
-                int would = y.wouldCome(owner, a[0], a[1]);
-                y.pass(a[0], a[1]);
-                Check.due("wouldCome() as by pass()", y.of(owner, 13) - before, would);
+    private static OasisBooks gardensOn(int day) {
+        return Given.until(gardens(), day, 30);
+    }
+
+    private static OasisBooks wholeOn(int day) {
+        return Given.until(Given.whole(), day, 30);
+    }
+
+    private static void nobodyWouldHave() {
+        Check.nobody("wouldCome's owner", (x, n) -> x.wouldCome(n, 30, 7));
+    }
+
+    private static void comeRainRange() {
+        Check.range("wouldCome's rain", Given::whole, (x, n) -> x.wouldCome(0, n, 1), 0, "7200", 99, "10080");
+    }
+
+    private static void comeDaysRange() {
+        Check.range("wouldCome's days", Given::whole, (x, n) -> x.wouldCome(0, 30, n), 1, "7920", 70,
+            String.valueOf(Given.whole().pass(30, 70)));
+    }
+
+    private static void comeIndexFirst() {
+        for (int owner : new int[] {-1, 1, 4, 10}) {
+            for (int[] w : new int[][] {{-1, 1}, {100, 1}, {0, 0}, {0, 71}}) {
+                Check.leaves("wouldCome(" + owner + ", " + w[0] + ", " + w[1] + ")", Given::oneDead,
+                    x -> x.wouldCome(owner, w[0], w[1]), Check.INDEX);
             }
         }
     }
 
-    private static void promise20Wrong() {
-        OasisBooks x = gardens();
-        for (int number : new int[] {-1, 1, 5, 10, Integer.MIN_VALUE, Integer.MAX_VALUE}) {
-            Check.refuses(x, INDEX, "wouldCome(" + number + ", -1, 0)", () -> x.wouldCome(number, -1, 0));
-        }
-        int[][] wrong = {{-1, 1}, {100, 1}, {0, 0}, {0, -1}, {0, 71}, {0, Integer.MAX_VALUE}};
-        for (int[] w : wrong) {
-            Check.refuses(x, ARGUMENT, "wouldCome(0, " + w[0] + ", " + w[1] + ")",
-                () -> x.wouldCome(0, w[0], w[1]));
+    private static void comeAsByPass() {
+        for (int[] a : new int[][] {{0, 70}, {99, 70}, {30, 13}, {17, 1}}) {
+            for (int owner : new int[] {0, 2, 3, 4}) {
+                OasisBooks x = gardensOn(4);
+                int before = x.of(owner, 13);
+                x.pass(a[0], a[1]);
+                Check.leaves("wouldCome(" + owner + ", " + a[0] + ", " + a[1] + ")", () -> gardensOn(4),
+                    y -> y.wouldCome(owner, a[0], a[1]), x.of(owner, 13) - before);
+            }
         }
     }
 
-    private static int bestDigOfOneDay(int length) {
-        OasisBooks x = new OasisBooks();
-        x.owner(5040, 0, 0, 0);
-        if (length > 40) {
-            x.dig(length - 40);
-        }
-        return x.bestDig(0, 1);
+    private static void comeWithMud() {
+        OasisBooks x = Given.whole();
+        Check.due("9 DAYS", x.wouldCome(0, 36, 9), 9 * 8640);
+        Check.due("10 DAYS", x.wouldCome(0, 36, 10), 9 * 8640 + 7920);
+        x.pass(36, 9);
+        Check.due("only what comes from now on", x.wouldCome(0, 36, 1), 7920);
+        Check.due("without BOWLS", Given.bowls(0).wouldCome(0, 99, 70), 0);
     }
 
-    private static OasisBooks wholeCycleOnDay1(int dug) {
-        OasisBooks x = new OasisBooks();
-        x.owner(5040, 0, 0, 0);
-        x.pass(0, 1);
-        if (dug > 0) {
-            x.dig(dug);
-        }
+    /** The heirs of the first one stand in front, and so they lose least. */
+    private static OasisBooks firstOneDied() {
+        OasisBooks x = Given.bowls(2000, 3000);
+        x.wouldCome(0, 30, 7);
+        x.die(0, 1, 1);
         return x;
     }
 
-    private static OasisBooks gardensDug(int length) {
-        OasisBooks x = gardens();
+    private static void comeBehindADeath() {
+        OasisBooks x = firstOneDied();
+        x.pass(36, 7);
+        for (int owner = 1; owner < 4; owner++) {
+            Check.due("wouldCome() of " + owner, firstOneDied().wouldCome(owner, 36, 7), x.of(owner, 13));
+        }
+    }
+
+    private static void bestRainRange() {
+        Check.range("bestDig's rain", Given::whole, (x, n) -> x.bestDig(n, 1), 0, "13", 99, "9");
+    }
+
+    private static void bestDaysRange() {
+        Check.range("bestDig's days", Given::whole, (x, n) -> x.bestDig(0, n), 1, "13", 35,
+            String.valueOf(bestByDigging(Given::whole, 0, 35)));
+        for (int days : new int[] {34, 35}) {
+            Check.leaves("bestDig(20, " + days + ")", WouldBeTest::gardens, x -> x.bestDig(20, days),
+                bestByDigging(WouldBeTest::gardens, 20, days));
+        }
+    }
+
+    private static OasisBooks dug(OasisBooks x, int length) {
         if (length > 0) {
             x.dig(length);
         }
         return x;
     }
 
-    private static int bestDigByDigging(int dug, int rain, int days) {
+    private static int bestByDigging(java.util.function.Supplier<OasisBooks> given, int rain, int days) {
         int best = 0;
-        int most = gardensDug(dug).pass(rain, days);
-        for (int more = 1; more <= 20 && 40 + dug + more <= 90; more++) {
-            int came = gardensDug(dug + more).pass(rain, days);
+        int most = given.get().pass(rain, days);
+        int length = given.get().many(4);
+        for (int more = 1; more <= 20 && length + more <= 90; more++) {
+            int came = dug(given.get(), more).pass(rain, days);
             best = came > most ? more : best;
             most = Math.max(most, came);
         }
         return best;
     }
 
-    private static void promise21BestDig() {
-        Check.due("bestDig(0, 1) at LENGTH 40", bestDigOfOneDay(40), 13);
-        Check.due("bestDig(0, 1) at LENGTH 80", bestDigOfOneDay(80), 6);
-        Check.due("bestDig(0, 1) at LENGTH 85", bestDigOfOneDay(85), 1);
-        Check.due("bestDig(0, 1) at LENGTH 86, up to 90", bestDigOfOneDay(86), 0);
-        Check.due("bestDig(0, 1) at LENGTH 90", bestDigOfOneDay(90), 0);
-        Check.due("bestDig(99, 35) without OWNERS", new OasisBooks().bestDig(99, 35), 0);
-        Check.due("bestDig(0, 28), up to 20 more", wholeCycleOnDay1(0).bestDig(0, 28), 20);
-        Check.due("bestDig(0, 28) at LENGTH 80, up to 90", wholeCycleOnDay1(40).bestDig(0, 28), 10);
-        int with19 = wholeCycleOnDay1(19).pass(0, 28);
-        int with20 = wholeCycleOnDay1(20).pass(0, 28);
-        Check.due("more litres with 20 than with 19", with20 > with19 ? 1 : 0, 1);
-        int[][] asked = {{40, 12}, {0, 1}, {3, 2}, {20, 5}, {10, 35}};
-        for (int[] a : asked) {
+    private static void bestAsByDigging() {
+        for (int[] a : new int[][] {{40, 12}, {0, 1}, {3, 2}, {20, 5}, {10, 35}}) {
             for (int dug : new int[] {0, 29, 31, 38, 45, 49}) {
-                Check.due("bestDig() as by dig() and pass()", gardensDug(dug).bestDig(a[0], a[1]),
-                    bestDigByDigging(dug, a[0], a[1]));
+                int want = bestByDigging(() -> dug(gardens(), dug), a[0], a[1]);
+                Check.leaves("bestDig(" + a[0] + ", " + a[1] + ") at LENGTH " + (40 + dug),
+                    () -> dug(gardens(), dug), x -> x.bestDig(a[0], a[1]), want);
             }
         }
-        OasisBooks x = gardens();
-        x.bestDig(40, 12);
+    }
+
+    /** On the DAY 1 of a whole CYCLE each LENGTH more brings more in 28 DAYS: so the end alone tells. */
+    private static OasisBooks longer(int dug) {
+        return dug(Given.until(Given.whole(), 1, 0), dug);
+    }
+
+    private static void twentyAtMost() {
+        Check.due("more with 20 than with 19", longer(20).pass(0, 28) > longer(19).pass(0, 28), true);
+        Check.due("more with 21 than with 20", longer(21).pass(0, 28) > longer(20).pass(0, 28), true);
+        Check.leaves("bestDig(0, 28)", () -> longer(0), x -> x.bestDig(0, 28), 20);
+    }
+
+    private static void upToNinety() {
+        int[][] want = {{30, 20}, {31, 19}, {40, 10}, {50, 0}};
+        for (int[] w : want) {
+            Check.leaves("bestDig(0, 28) at LENGTH " + (40 + w[0]), () -> longer(w[0]), x -> x.bestDig(0, 28), w[1]);
+        }
+        int[][] oneDay = {{0, 13}, {40, 6}, {45, 1}, {46, 0}, {49, 0}, {50, 0}};
+        for (int[] w : oneDay) {
+            Check.leaves("bestDig(0, 1) at LENGTH " + (40 + w[0]), () -> dug(Given.whole(), w[0]),
+                x -> x.bestDig(0, 1), w[1]);
+        }
+    }
+
+    private static void smallestOfSeveral() {
+        int with13 = dug(Given.whole(), 13).pass(0, 1);
+        Check.due("12 bring less", dug(Given.whole(), 12).pass(0, 1) < with13, true);
+        for (int more = 13; more <= 20; more++) {
+            Check.due(more + " bring as much", dug(Given.whole(), more).pass(0, 1), with13);
+        }
+        Check.leaves("bestDig(0, 1)", Given::whole, x -> x.bestDig(0, 1), 13);
+    }
+
+    private static void noneIsBest() {
+        Check.leaves("without OWNERS", OasisBooks::new, x -> x.bestDig(99, 35), 0);
+        Check.leaves("without BOWLS", () -> Given.bowls(0, 0), x -> x.bestDig(99, 35), 0);
+        Check.leaves("without BOWLS of the DAY 1", () -> Given.bowls(720), x -> x.bestDig(99, 1), 0);
+        Check.leaves("without BOWLS up to the DAY 6", () -> Given.bowls(720), x -> x.bestDig(99, 6), 0);
+        Check.due("with the DAY 7", Given.bowls(720).bestDig(99, 7) > 0, true);
+    }
+
+    private static void digsForNothing() {
+        OasisBooks x = Given.owners(new int[] {5040, 0, 0, 0});
+        Check.due("bestDig(0, 1) without COINS", x.bestDig(0, 1), 13);
+        Check.due("COINS", x.of(0, 1), 0);
         Check.due("LENGTH", x.many(4), 40);
-        Check.due("COINS", x.many(15), 1500);
-        int[][] wrong = {{-1, 1}, {100, 1}, {0, 0}, {0, -1}, {0, 36}, {0, Integer.MAX_VALUE}};
-        for (int[] w : wrong) {
-            Check.refuses(x, ARGUMENT, "bestDig(" + w[0] + ", " + w[1] + ")", () -> x.bestDig(w[0], w[1]));
-        }
     }
 
-    private static void promise22PumpTakes() {
-        OasisBooks x = new OasisBooks();
-        x.owner(5040, 0, 0, 0);
-        Check.due("pumpTakes(20, 0, 1)", x.pumpTakes(20, 0, 1), 1440);
-        Check.due("pumpTakes(0, 0, 1)", x.pumpTakes(0, 0, 1), 0);
-        x.pump(20);
-        Check.due("pumpTakes(0, 0, 1) with DRAW 20", x.pumpTakes(0, 0, 1), -1440);
-        Check.due("pumpTakes(20, 0, 70) with DRAW 20", x.pumpTakes(20, 0, 70), 0);
-        Check.due("DRAW", x.many(6), 20);
-        OasisBooks y = gardens();
-        y.pump(17);
-        Check.due("pumpTakes(17, 33, 70) as by pump() and pass()", gardens().pumpTakes(17, 33, 70),
-            gardens().pass(33, 70) - y.pass(33, 70));
-        int[][] wrong = {{-1, 0, 1}, {21, 0, 1}, {0, -1, 1}, {0, 100, 1}, {0, 0, 0}, {0, 0, 71},
-            {0, 0, Integer.MIN_VALUE}};
-        for (int[] w : wrong) {
-            Check.refuses(x, ARGUMENT, "pumpTakes" + java.util.Arrays.toString(w),
-                () -> x.pumpTakes(w[0], w[1], w[2]));
-        }
+    private static void pumpDrawRange() {
+        Check.range("pumpTakes' draw", Given::whole, (x, n) -> x.pumpTakes(n, 0, 1), 0, "0", 20, "1440");
     }
 
-    private static void promise23WouldReap() {
-        OasisBooks x = new OasisBooks();
-        x.owner(5040, 0, 200, 20);
-        x.owner(0, 0, 0, 0);
-        x.pollinate(0, 200);
-        x.ahead(0, 1, 999, 0);
-        Check.due("on the DATE 0", x.wouldReap(0, 30), 1860);
-        Check.due("of one without PALMS", x.wouldReap(1, 30), 0);
-        x.pass(30, 59);
-        Check.due("on the DATE 59", x.wouldReap(0, 30), 1860);
-        x.pass(30, 1);
-        Check.due("DATES", x.of(0, 6), 861);
-        Check.due("on the DATE 60", x.wouldReap(0, 30), 0);
-        x.pass(30, 10);
-        x.pollinate(0, 100);
-        Check.due("in the next YEAR", x.wouldReap(0, 30), 930);
-        Check.due("DATES", x.of(0, 6), 861);
-        Check.due("of the buyer", x.wouldReap(1, 30), 0);
-        Check.due("without RAIN the water ends", x.wouldReap(0, 0), 0);
-        for (int number : new int[] {-1, 2, 10, Integer.MIN_VALUE, Integer.MAX_VALUE}) {
-            Check.refuses(x, INDEX, "wouldReap(" + number + ", -1)", () -> x.wouldReap(number, -1));
-        }
-        for (int rain : new int[] {-1, 100, Integer.MIN_VALUE, Integer.MAX_VALUE}) {
-            Check.refuses(x, ARGUMENT, "wouldReap(0, " + rain + ")", () -> x.wouldReap(0, rain));
-        }
+    private static void pumpRainRange() {
+        Check.range("pumpTakes' rain", Given::whole, (x, n) -> x.pumpTakes(20, n, 1), 0, "1440", 99, "1440");
     }
 
-    /** The heirs of the first one stand in front, and so they lose least. */
-    private static void firstOneDies() {
-        OasisBooks x = new OasisBooks();
-        x.owner(2000, 0, 0, 0);
-        x.owner(3000, 0, 0, 0);
-        x.wouldCome(0, 30, 7);
-        x.die(0, 1, 1);
-        for (int owner = 1; owner < 4; owner++) {
-            int would = x.wouldCome(owner, 36, 7);
-            OasisBooks y = new OasisBooks();
-            y.owner(2000, 0, 0, 0);
-            y.owner(3000, 0, 0, 0);
-            y.die(0, 1, 1);
-            y.pass(36, 7);
-            Check.due("wouldCome() of " + owner, would, y.of(owner, 13));
-        }
-    }
-
-    private static void digestOfOneBowl() {
-        OasisBooks x = new OasisBooks();
-        x.owner(1, 0, 0, 0);
-        Check.due("digest() with one BOWL", x.digest(), digestBy(x));
-    }
-
-    private static void beyondTheLastDay() {
-        OasisBooks x = new OasisBooks();
-        x.owner(5040, 0, 200, 20);
-        for (int year = 0; year < 28; year++) {
-            x.pass(30, 70);
-        }
-        x.pollinate(0, 100);
-        x.pass(30, 40);
-        Check.due("DAY", x.many(0), 2000);
-        Check.due("wouldCome() beyond it", x.wouldCome(0, 30, 70) > 100000 ? 1 : 0, 1);
-        Check.due("wouldReap() beyond it", x.wouldReap(0, 30), 930);
-        Check.due("pumpTakes() beyond it", x.pumpTakes(20, 30, 35) > 0 ? 1 : 0, 1);
-        Check.due("bestDig() beyond it", x.bestDig(0, 1) > 0 ? 1 : 0, 1);
-        Check.due("DAY", x.many(0), 2000);
-    }
-
-    private static long digestBy(OasisBooks x) {
-        long d = 7803;
-        for (int what = 0; what <= 15; what++) {
-            d = d * 31 + x.many(what);
-        }
-        for (int owner = 0; owner < x.many(8); owner++) {
-            try {
-                for (int what = 0; what <= 13; what++) {
-                    d = d * 31 + x.of(owner, what);
-                }
-                d = d * 31 + x.wouldCome(owner, 0, 7);
-                d = d * 31 + x.wouldReap(owner, 3);
-            } catch (IndexOutOfBoundsException e) {
-                continue;
-            }
-        }
-        for (int bowl = 0; bowl <= 4320; bowl += 720) {
-            d = d * 31 + x.ofBowl(bowl, 0);
-            d = d * 31 + x.ofBowl(bowl, 1);
-        }
-        for (int loan = 0; loan < x.many(10); loan++) {
-            for (int what = 0; what <= 3; what++) {
-                d = d * 31 + x.ofLoan(loan, what);
-            }
-        }
-        for (int sale = 0; sale < x.many(11); sale++) {
-            for (int what = 0; what <= 2; what++) {
-                d = d * 31 + x.ofSale(sale, what);
-            }
-        }
-        d = d * 31 + x.bestDig(0, 3);
-        return d * 31 + x.pumpTakes(5, 0, 9);
-    }
-
-    private static void promise24Digest() {
-        Check.due("digest() of a new one", new OasisBooks().digest(), -5276735415943335321L);
-        Check.due("digest() of a new one by its parts", digestBy(new OasisBooks()), -5276735415943335321L);
-        for (int steps = 0; steps <= 40; steps += 4) {
-            OasisBooks x = gardensAfter(steps);
-            long digest = x.digest();
-            Check.due("digest() after " + steps + " steps", digest, digestBy(x));
-            Check.due("digest() once more", x.digest(), digest);
-        }
-        OasisBooks x = gardensAfter(12);
-        x.die(0, 2, 2);
-        Check.due("digest() behind a death", x.digest(), digestBy(x));
-    }
-
-    private static OasisBooks gardensAfter(int steps) {
-        OasisBooks x = gardens();
-        for (int step = 0; step < steps; step++) {
-            x.pass(step * 7 % 100, 1 + step % 11);
-            if (x.many(11) < 8) {
-                x.ahead(0, 3, 1 + step, 1);
-            }
-            if (x.many(10) < 8) {
-                x.lend(2, 0, 1 + step, 2);
-            }
-            x.pollinate(0, 1);
-        }
+    private static OasisBooks pumping(int draw) {
+        OasisBooks x = Given.whole();
+        x.pump(draw);
         return x;
     }
 
+    private static void pumpDaysRange() {
+        int taken = pumping(0).pass(30, 70) - pumping(20).pass(30, 70);
+        Check.range("pumpTakes' days", Given::whole, (x, n) -> x.pumpTakes(20, 30, n), 1, "1440", 70,
+            String.valueOf(taken));
+    }
+
+    private static void pumpLessAndMore() {
+        Check.leaves("from 0 to 20", () -> pumping(0), x -> x.pumpTakes(20, 0, 1), 1440);
+        Check.leaves("from 20 to 0", () -> pumping(20), x -> x.pumpTakes(0, 0, 1), -1440);
+        Check.leaves("from 0 to 0", () -> pumping(0), x -> x.pumpTakes(0, 0, 70), 0);
+        Check.leaves("from 20 to 20", () -> pumping(20), x -> x.pumpTakes(20, 0, 70), 0);
+        Check.leaves("from 9 to 9", () -> pumping(9), x -> x.pumpTakes(9, 50, 70), 0);
+        Check.leaves("without OWNERS", OasisBooks::new, x -> x.pumpTakes(20, 0, 70), 0);
+        Check.due("DRAW", pumping(20).many(6), 20);
+    }
+
+    private static void pumpAsByPass() {
+        for (int draw : new int[] {0, 1, 3, 17, 20}) {
+            OasisBooks x = gardens();
+            x.pump(draw);
+            int want = gardens().pass(33, 70) - x.pass(33, 70);
+            Check.leaves("pumpTakes(" + draw + ", 33, 70)", WouldBeTest::gardens, y -> y.pumpTakes(draw, 33, 70), want);
+        }
+    }
+
+    private static void nobodyWouldReap() {
+        Check.nobody("wouldReap's owner", (x, n) -> x.wouldReap(n, 30));
+        Check.leaves("a dead one with -1", Given::oneDead, x -> x.wouldReap(1, -1), Check.INDEX);
+        Check.leaves("nobody with 100", Given::oneDead, x -> x.wouldReap(4, 100), Check.INDEX);
+    }
+
+    /** At the harvest of the DAY 60, with RAIN 30, the first one has 1860 DATES; 999 are sold. */
+    private static OasisBooks palms(int day) {
+        OasisBooks x = Given.owners(new int[] {5040, 0, 200, 20}, new int[] {0, 0, 0, 0});
+        x.pollinate(0, 200);
+        x.ahead(0, 1, 999, 0);
+        return Given.until(x, day, 30);
+    }
+
+    private static void reapRainRange() {
+        int dry = Given.until(palms(59), 60, 0).many(14);
+        int withSalt = 200 * 93 * 99 / 1000;
+        Check.range("wouldReap's rain", () -> palms(59), (x, n) -> x.wouldReap(0, n), 0, String.valueOf(dry), 99,
+            String.valueOf(withSalt));
+        Check.leaves("without RAIN from the DATE 0 on", () -> palms(0), x -> x.wouldReap(0, 0), 0);
+    }
+
+    private static void theNextHarvest() {
+        int[][] want = {{0, 1860}, {1, 1860}, {58, 1860}, {59, 1860}, {60, 0}, {61, 0}, {69, 0}, {70, 0}};
+        for (int[] w : want) {
+            Check.leaves("on the DAY " + w[0], () -> palms(w[0]), x -> x.wouldReap(0, 30), w[1]);
+        }
+        OasisBooks x = palms(70);
+        x.pollinate(0, 100);
+        Check.due("POLLINATED again, on the DAY 70", x.wouldReap(0, 30), 930);
+        Given.until(x, 129, 30);
+        Check.due("on the DAY 129", x.wouldReap(0, 30), 930);
+        x.pass(30, 1);
+        Check.due("on the DAY 130", x.wouldReap(0, 30), 0);
+    }
+
+    private static void aheadOfWhatWasSold() {
+        Check.leaves("of the seller", () -> palms(59), x -> x.wouldReap(0, 30), 1860);
+        Check.leaves("of the buyer", () -> palms(59), x -> x.wouldReap(1, 30), 0);
+        OasisBooks x = palms(60);
+        Check.due("DATES of the seller behind it", x.of(0, 6), 861);
+        Check.due("what he has already is not reaped", x.wouldReap(0, 30), 0);
+    }
+
+    private static void reapBehindADeath() {
+        OasisBooks x = palms(30);
+        x.die(0, 1, 0);
+        Check.due("heirs have none POLLINATED", x.wouldReap(2, 30), 0);
+    }
+
+    private static OasisBooks lastDay() {
+        OasisBooks x = Given.until(Given.owners(new int[] {5040, 0, 200, 20}), 1960, 30);
+        x.pollinate(0, 100);
+        return Given.until(x, 2000, 30);
+    }
+
+    private static void beyondTheLastDay() {
+        int flow = lastDay().many(3);
+        Check.leaves("wouldReap(0, 30)", WouldBeTest::lastDay, x -> x.wouldReap(0, 30), 930);
+        Check.due("wouldCome(0, 30, 70)", lastDay().wouldCome(0, 30, 70) > 60 * 720 * (flow - 2), true);
+        Check.due("bestDig(0, 35)", lastDay().bestDig(0, 35) > 0, true);
+        Check.due("pumpTakes(20, 30, 70)", lastDay().pumpTakes(20, 30, 70) > 0, true);
+        Check.leaves("pass(30, 1)", WouldBeTest::lastDay, x -> x.pass(30, 1), Check.STATE);
+        OasisBooks x = wholeOn(1999);
+        int one = x.wouldCome(0, 30, 1);
+        int two = x.wouldCome(0, 30, 2);
+        Check.due("the DAY 2000 by pass()", x.pass(30, 1), one);
+        Check.due("the DAY 2001 from the DAY 2000", x.wouldCome(0, 30, 1), two - one);
+    }
+
+    private static void askedOneAfterAnother() {
+        OasisBooks x = gardens();
+        int come = x.wouldCome(2, 25, 40);
+        int best = x.bestDig(25, 20);
+        int takes = x.pumpTakes(11, 25, 40);
+        int reap = x.wouldReap(2, 25);
+        Check.due("wouldReap() again", x.wouldReap(2, 25), reap);
+        Check.due("pumpTakes() again", x.pumpTakes(11, 25, 40), takes);
+        Check.due("bestDig() again", x.bestDig(25, 20), best);
+        Check.due("wouldCome() again", x.wouldCome(2, 25, 40), come);
+        Check.due("all", Look.at(x), Look.at(gardens()));
+    }
+
     public static void main(String[] args) {
-        promise20WouldCome();
-        promise20Wrong();
-        promise21BestDig();
-        promise22PumpTakes();
-        promise23WouldReap();
-        firstOneDies();
-        beyondTheLastDay();
-        promise24Digest();
-        digestOfOneBowl();
+        Check.that("promise 20: no such OWNER who lives", WouldBeTest::nobodyWouldHave);
+        Check.that("promise 20: rain 0 to 99", WouldBeTest::comeRainRange);
+        Check.that("promise 20: days 1 to 70", WouldBeTest::comeDaysRange);
+        Check.that("promise 20: IndexOutOfBounds goes first", WouldBeTest::comeIndexFirst);
+        Check.that("promise 20: if all went on so", WouldBeTest::comeAsByPass);
+        Check.that("promise 20: the litres in them, with MUD", WouldBeTest::comeWithMud);
+        Check.that("promise 20: behind a death", WouldBeTest::comeBehindADeath);
+        Check.that("promise 21: rain 0 to 99", WouldBeTest::bestRainRange);
+        Check.that("promise 21: days 1 to 35", WouldBeTest::bestDaysRange);
+        Check.that("promise 21: with which most litres would come", WouldBeTest::bestAsByDigging);
+        Check.that("promise 21: 0 to 20", WouldBeTest::twentyAtMost);
+        Check.that("promise 21: up to 90 in all", WouldBeTest::upToNinety);
+        Check.that("promise 21: of several the smallest one", WouldBeTest::smallestOfSeveral);
+        Check.that("promise 21: nothing comes, so 0", WouldBeTest::noneIsBest);
+        Check.that("promise 21: nothing is paid or dug", WouldBeTest::digsForNothing);
+        Check.that("promise 22: draw 0 to 20", WouldBeTest::pumpDrawRange);
+        Check.that("promise 22: rain 0 to 99", WouldBeTest::pumpRainRange);
+        Check.that("promise 22: days 1 to 70", WouldBeTest::pumpDaysRange);
+        Check.that("promise 22: how many less (below 0: more)", WouldBeTest::pumpLessAndMore);
+        Check.that("promise 22: with that DRAW from now on", WouldBeTest::pumpAsByPass);
+        Check.that("promise 23: no such OWNER who lives, ahead of rain", WouldBeTest::nobodyWouldReap);
+        Check.that("promise 23: rain 0 to 99", WouldBeTest::reapRainRange);
+        Check.that("promise 23: the next harvest", WouldBeTest::theNextHarvest);
+        Check.that("promise 23: ahead of what was SOLD AHEAD", WouldBeTest::aheadOfWhatWasSold);
+        Check.that("promise 23: behind a death", WouldBeTest::reapBehindADeath);
+        Check.that("section 4: also beyond the DAY 2000", WouldBeTest::beyondTheLastDay);
+        Check.that("section 4: nothing is changed", WouldBeTest::askedOneAfterAnother);
         Check.end();
     }
 }

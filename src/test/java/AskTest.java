@@ -233,6 +233,16 @@ public final class AskTest {
         Check.due("of 50 and three times an heir's 2", x.meanMoist(), 14.0);
     }
 
+    private static void askingChangesNothing() {
+        OasisBooks x = full();
+        String first = Look.at(x);
+        Check.due("all, asked again", Look.at(x), first);
+        x.pass(36, 9);
+        OasisBooks y = full();
+        y.pass(36, 9);
+        Check.due("all behind 9 more DAYS", Look.many(x), Look.many(y));
+    }
+
     public static void main(String[] args) {
         Check.that("promise 14: no such OWNER who lives", AskTest::nobodyIsAsked);
         Check.that("promise 14: what 0 to 13", AskTest::ofRange);
@@ -258,6 +268,7 @@ public final class AskTest {
         Check.that("promise 19: of one, 50 and 0", AskTest::meanOfOne);
         Check.that("promise 19: not rounded", AskTest::meanIsNotRounded);
         Check.that("promise 19: of OWNERS who live", AskTest::meanWithoutTheDead);
+        Check.that("section 4: what one asks changes nothing", AskTest::askingChangesNothing);
         Check.end();
     }
 }

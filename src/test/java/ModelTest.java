@@ -5,7 +5,7 @@ public final class ModelTest {
     private static final int RUNS = 300;
     // Behind these calls an object may answer what it likes.
     private static final int MOST_CALLS = 512;
-    private static final int CALLS_TO_COMPARE = 207;
+    private static final int CALLS_TO_COMPARE = 208;
     private static final int[] ODD = {-1, 0, 1, 2, 9, 10, 13, 14, 20, 21, 30, 31, 35, 36, 70, 71, 80, 81, 99, 100,
         200, 201, 999, 1000, 5040, 5041, 9999, 10000, Integer.MAX_VALUE, Integer.MIN_VALUE};
 
@@ -131,6 +131,7 @@ public final class ModelTest {
             Check.due(at + "ofBowl(" + bowl + ", " + i % 2 + ")", x.ofBowl(bowl, i % 2), bowls[i % 2][bowl]);
         }
         Check.due(at + "meanMoist()", x.meanMoist(), p.meanMoist());
+        Check.due(at + "digest()", x.digest(), p.digest());
     }
 
     private static void callSomething(String at, int haste, OasisBooks x, PlainOasis p) {
@@ -145,6 +146,8 @@ public final class ModelTest {
             ask(at, x, p);
         } else if (kind < 20) {
             askWhatWouldBe(at, x, p);
+        } else if (below(100) == 0) {
+            Check.due(at + "digest", x.digest(), p.digest());
         } else {
             passDays(at, x, p);
         }

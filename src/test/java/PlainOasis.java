@@ -529,4 +529,38 @@ final class PlainOasis {
         }
         return p.man(owner).reaped;
     }
+
+    long digest() {
+        List<Integer> all = new ArrayList<>();
+        for (int what = 0; what <= 15; what++) {
+            all.add(many(what));
+        }
+        for (int number = 0; number < ever; number++) {
+            int owner = number;
+            if (row.stream().anyMatch(m -> m.number == owner)) {
+                for (int what = 0; what <= 13; what++) {
+                    all.add(of(owner, what));
+                }
+                all.add(wouldCome(owner, 0, 7));
+                all.add(wouldReap(owner, 3));
+            }
+        }
+        for (int bowl : new int[] {0, 720, 1440, 2160, 2880, 3600, 4320}) {
+            all.add(ofBowl(bowl, 0));
+            all.add(ofBowl(bowl, 1));
+        }
+        for (int[] loan : loans) {
+            all.addAll(List.of(loan[0], loan[1], loan[2], loan[3]));
+        }
+        for (int[] sale : sales) {
+            all.addAll(List.of(sale[0], sale[1], sale[2]));
+        }
+        all.add(bestDig(0, 3));
+        all.add(pumpTakes(5, 0, 9));
+        long d = 7803;
+        for (int v : all) {
+            d = d * 31 + v;
+        }
+        return d;
+    }
 }
